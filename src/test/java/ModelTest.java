@@ -56,7 +56,9 @@ public final class ModelTest {
 
     /** Words that leave one value; 'deep' bounds their number. */
     private void expression(List<Integer> out, int deep) {
-        if (deep <= 0 || upTo(3) == 0) {
+        if (deep >= 2 && upTo(7) == 0) {
+            manyValues(out);
+        } else if (deep <= 0 || upTo(3) == 0) {
             out.add(upTo(2) == 0 ? Check.num(smallNumber()) : Check.var(upTo(5)));
         } else if (upTo(5) == 0) {
             expression(out, deep - 1);
@@ -66,6 +68,13 @@ public final class ModelTest {
             expression(out, deep - 2);
             out.add(2 + upTo(6));
         }
+    }
+
+    /** So many values before the first word that takes them that the stack gets full, or nearly. */
+    private void manyValues(List<Integer> out) {
+        int n = 3 + upTo(5);
+        for (int i = 0; i < n; i++) out.add(upTo(1) == 0 ? Check.num(smallNumber()) : Check.var(upTo(5)));
+        for (int i = 1; i < n; i++) out.add(2 + upTo(6));
     }
 
     private List<Integer> condition() {

@@ -304,6 +304,11 @@ public final class PromiseTest {
         dueRule("9 values", 1, n, n, n, n, n, n, n, n, var(0), 2, 2, 2, 2, 2, 2, 2, 2, THEN);
         dueRule("8 values behind THEN", 0, n, THEN, n, n, n, n, n, n, n, var(1), 2, 2, 2, 2, 2, 2, 2, set(5));
         dueRule("9 values behind THEN", 1, n, THEN, n, n, n, n, n, n, n, n, n, 2, 2, 2, 2, 2, 2, 2, 2, set(5));
+        dueRule("10 values", 1, n, n, n, n, n, n, n, n, n, n, THEN);
+        dueRule("too few for a word, then one", 1, n, PLUS, n, THEN);
+        dueRule("ALSO after two values", 1, n, n, ALSO, THEN);
+        dueRule("ALSO after two values behind THEN", 1, n, THEN, n, n, ALSO, set(0));
+        dueRule("THEN after two values behind THEN", 1, n, THEN, n, n, THEN, set(0));
         dueRule("8 values, NOT", 0, n, n, n, n, n, n, n, n, NOT, 2, 2, 2, 2, 2, 2, 2, THEN);
     }
 
@@ -324,6 +329,7 @@ public final class PromiseTest {
         dueInvariant("THEN between", 2, num(1), THEN, num(1));
         dueInvariant("SET", 2, num(1), num(1), set(0));
         dueInvariant("op without values", 2, num(1), PLUS);
+        dueInvariant("THEN after two values", 2, num(1), num(1), THEN);
         int n = num(1);
         dueInvariant("8 values", 0, n, n, n, n, n, n, n, n, 2, 2, 2, 2, 2, 2, 2);
         dueInvariant("9 values", 2, n, n, n, n, n, n, n, n, n, 2, 2, 2, 2, 2, 2, 2, 2);
@@ -585,6 +591,7 @@ public final class PromiseTest {
         dueValue(1, AND, 2, 0);
         dueValue(12, OR, 3, 15);
         dueValue(MIN, OR, 1, MIN + 1);
+        fullStack();
         int[] numbers = {0, 1, -1, MAX >> 8, MIN >> 8};
         for (int k : numbers) {
             ProtoCheck p = new ProtoCheck();
@@ -595,6 +602,34 @@ public final class PromiseTest {
             due("CONST " + k, p.traceVar(1, 0), k);
             due("NOT " + k, p.traceVar(1, 1), k == 0 ? 1 : 0);
         }
+    }
+
+    private static void fullStack() {
+        int[] eight = {num(1), num(2), num(4), num(8), num(16), num(32), num(64), num(128), 2, 2, 2, 2, 2, 2, 2};
+        ProtoCheck x = new ProtoCheck();
+        Check.rule(x, eight);
+        due("THEN", x.feedRule(THEN), 0);
+        for (int w : eight) {
+            due("feedRule(" + w + ")", x.feedRule(w), 0);
+        }
+        due("SET", x.feedRule(set(4)), 0);
+        Check.invariant(x, eight);
+        Check.invariant(x, num(255), EQUAL, ALSO, var(4), num(255), EQUAL, NOT);
+        due("seal()", x.seal(), 0);
+        due("eight values add up in a part", x.verdict(), 0);
+        due("explore(1)", x.explore(1), 0);
+        due("eight values add up behind THEN", x.traceVar(1, 4), 255);
+
+        x = new ProtoCheck();
+        int[] minus = {num(1), num(2), num(4), num(8), num(16), num(32), num(64), num(43), 3, 3, 3, 3, 3, 3, 3};
+        Check.rule(x, minus);
+        Check.invariant(x, var(0), NOT);
+        due("THEN", x.feedRule(THEN), 0);
+        due("CONST", x.feedRule(num(1)), 0);
+        due("SET", x.feedRule(set(0)), 0);
+        due("seal()", x.seal(), 0);
+        due("1-(2-(4-(8-(16-(32-(64-43)))))) is 0", x.explore(9), 0);
+        due("so the rule may not fire", x.verdict(), 1);
     }
 
     private static void promise11() {
