@@ -1,11 +1,19 @@
-/** Counts and prints the answers that are not as due, and builds words for the tests. */
-final class Check {
+/** Counts and prints the answers that are not as due, and builds words; tests extend it to use its names as they are. */
+class Check {
     static final int PLUS = 2, MINUS = 3, TIMES = 4, EQUAL = 5, LESS = 6, AND = 7, OR = 8, NOT = 9, THEN = 10, ALSO = 12;
 
     private static int wrong = 0;
     private static int asked = 0;
 
-    private Check() {
+    Check() {
+    }
+
+    static int wrong() {
+        return wrong;
+    }
+
+    static int asked() {
+        return asked;
     }
 
     static int num(int k) {

@@ -1,0 +1,59 @@
+import java.io.IOException;
+import java.nio.file.Files;
+import java.nio.file.Path;
+import java.util.ArrayList;
+import java.util.LinkedHashMap;
+import java.util.List;
+import java.util.Map;
+
+/** The text of ../shared/DOC.md by sections, and how much of it has been quoted. */
+final class DocText {
+    private final Map<String, String> texts = new LinkedHashMap<>();
+    private final Map<String, boolean[]> quoted = new LinkedHashMap<>();
+
+    DocText() throws IOException {
+        String doc = Files.readString(Path.of("../shared/DOC.md"));
+        for (String section : doc.split("(?m)^## ")) {
+            int end = section.indexOf('\n');
+            String title = section.substring(0, end).replaceFirst(":.*", "");
+            // Code fences and the signature at a promise's head are no sentences.
+            String text = section.substring(end).replaceAll("(?m)^```.*$", " ").replaceAll("`[^`]*`:", " ");
+            texts.put(title, oneLine(text));
+            quoted.put(title, new boolean[texts.get(title).length()]);
+        }
+    }
+
+    private static String oneLine(String text) {
+        return text.replaceAll("\\s+", " ").trim();
+    }
+
+    /** Marks the piece as quoted; false if the section does not say so. */
+    boolean quote(String section, String piece) {
+        String text = texts.getOrDefault(section, "");
+        int at = text.indexOf(oneLine(piece));
+        if (at < 0) {
+            return false;
+        }
+        for (int i = at; i < at + oneLine(piece).length(); i++) {
+            quoted.get(section)[i] = true;
+        }
+        return true;
+    }
+
+    /** The pieces of the section with a letter or a digit that nobody has quoted. */
+    List<String> unquoted(String section) {
+        String text = texts.getOrDefault(section, "no such section");
+        boolean[] done = quoted.getOrDefault(section, new boolean[text.length()]);
+        StringBuilder left = new StringBuilder();
+        for (int i = 0; i < text.length(); i++) {
+            left.append(done[i] ? '\n' : text.charAt(i));
+        }
+        List<String> out = new ArrayList<>();
+        for (String piece : left.toString().split("\n+")) {
+            if (piece.chars().anyMatch(Character::isLetterOrDigit)) {
+                out.add(piece.trim());
+            }
+        }
+        return out;
+    }
+}
