@@ -27,13 +27,25 @@ final class DocText {
         return text.replaceAll("\\s+", " ").trim();
     }
 
+    /** Where the piece stands, counted through the whole document; -1 if the section does not say so. */
+    int placeOf(String section, String piece) {
+        int before = 0;
+        for (Map.Entry<String, String> entry : texts.entrySet()) {
+            int at = entry.getValue().indexOf(oneLine(piece));
+            if (entry.getKey().equals(section)) {
+                return at < 0 ? -1 : before + at;
+            }
+            before += entry.getValue().length();
+        }
+        return -1;
+    }
+
     /** Marks the piece as quoted; false if the section does not say so. */
     boolean quote(String section, String piece) {
-        String text = texts.getOrDefault(section, "");
-        int at = text.indexOf(oneLine(piece));
-        if (at < 0) {
+        if (placeOf(section, piece) < 0) {
             return false;
         }
+        int at = texts.get(section).indexOf(oneLine(piece));
         for (int i = at; i < at + oneLine(piece).length(); i++) {
             quoted.get(section)[i] = true;
         }

@@ -200,6 +200,15 @@ class Fixture extends Check {
         return out;
     }
 
+    /** Eight values on the stack, 1, 2, 4 and so on, then their sum, 255. */
+    static int[] sumOfPowers() {
+        int[] out = sumOf(8);
+        for (int i = 0; i < 8; i++) {
+            out[i] = num(1 << i);
+        }
+        return out;
+    }
+
     static int[] joined(int[]... rows) {
         int n = 0;
         for (int[] r : rows) {

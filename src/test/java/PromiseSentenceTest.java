@@ -153,6 +153,7 @@ public final class PromiseSentenceTest extends Fixture {
         due(when + "feedRule()", x.feedRule(THEN), 0);
         due(when + "feedInvariant()", x.feedInvariant(num(1)), 0);
         due(when + "seal()", x.seal(), 0);
+        due(when + "nothing expanded", x.verdict(), 0);
         due(when + "explore()", x.explore(1), 0);
         due(when + "verdict()", x.verdict(), 1);
     }
@@ -859,6 +860,15 @@ public final class PromiseSentenceTest extends Fixture {
     @Sentence(in = "Promise 15", says = "0 if it is not violated.")
     static void replayWithoutViolation() {
         dueInEach(notViolated(), "replay()", ProtoCheck::replay, 0);
+        ProtoCheck x = withInvariant(var(0));
+        due("not sealed, but would be violated", x.replay(), 0);
+        x.setInit(0, 1);
+        due("it would not hold if all were 0", sealed(x).replay(), 0);
+        x = violated();
+        x.init();
+        x.setInit(0, 3);
+        invariant(x, never(0, 2));
+        due("it would not hold where it broke before", sealed(x).replay(), 0);
     }
 
     // Promise 16: probeVar

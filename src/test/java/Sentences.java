@@ -12,7 +12,7 @@ final class Sentences {
 
     static void run(Class<?> tests, String... sections) throws IOException, IllegalAccessException {
         DocText doc = new DocText();
-        for (Method test : testsOf(tests)) {
+        for (Method test : testsOf(tests, doc)) {
             Sentence sentence = test.getAnnotation(Sentence.class);
             String name = sentence.in() + " says \"" + sentence.says() + "\"";
             Check.due(name + ", so the document", doc.quote(sentence.in(), sentence.says()) ? 1 : 0, 1);
@@ -24,15 +24,21 @@ final class Sentences {
         Check.end(tests.getSimpleName());
     }
 
-    private static List<Method> testsOf(Class<?> tests) {
+    /** In the document's order. */
+    private static List<Method> testsOf(Class<?> tests, DocText doc) {
         List<Method> out = new ArrayList<>();
         for (Method m : tests.getDeclaredMethods()) {
             if (m.isAnnotationPresent(Sentence.class)) {
                 out.add(m);
             }
         }
-        out.sort(Comparator.comparing(Method::getName));
+        out.sort(Comparator.comparing((Method m) -> placeOf(m, doc)).thenComparing(Method::getName));
         return out;
+    }
+
+    private static int placeOf(Method test, DocText doc) {
+        Sentence sentence = test.getAnnotation(Sentence.class);
+        return doc.placeOf(sentence.in(), sentence.says());
     }
 
     private static void runOne(Method test, String name) throws IllegalAccessException {
@@ -46,8 +52,7 @@ final class Sentences {
         if (Check.asked() == askedBefore) {
             Check.due(test.getName() + " asks something", 0, 1);
         }
-        if (Check.wrong() > wrongBefore) {
-            System.out.println("FAILED: " + test.getName() + ": " + name);
-        }
+        boolean failed = Check.wrong() > wrongBefore;
+        System.out.println((failed ? "FAILED: " : "ok: ") + test.getName() + ": " + name);
     }
 }

@@ -18,20 +18,24 @@ public final class TermsSentenceTest extends Fixture {
 
     // States and words
 
-    /** Two variables, each of which may become 1. */
-    private static ProtoCheck twoSwitches(int... blocks) {
+    /** Two variables, each of which may become 1. Not sealed. */
+    private static ProtoCheck switches(int... blocks) {
         ProtoCheck x = withBlocks(blocks);
         rule(x, var(0), NOT, THEN, num(1), set(0));
         rule(x, var(1), NOT, THEN, num(1), set(1));
         invariant(x, num(1));
-        return explored(sealed(x), 9, 0);
+        return x;
+    }
+
+    private static int switchStates(int... blocks) {
+        return explored(sealed(switches(blocks)), 9, 0).stateCount();
     }
 
     @Sentence(in = "Terms", says = "Variables may be declared interchangeable; then of all states that differ "
         + "only by exchanging them one is stored.")
     static void oneOfInterchangeableStatesIsStored() {
-        due("not interchangeable", twoSwitches().stateCount(), 4);
-        due("interchangeable", twoSwitches(1, 1).stateCount(), 3);
+        due("not interchangeable", switchStates(), 4);
+        due("interchangeable", switchStates(1, 1), 3);
     }
 
     @Sentence(in = "Terms", says = "A STATE is six ints, VARIABLES 0 .. 5.")
@@ -77,8 +81,8 @@ public final class TermsSentenceTest extends Fixture {
             due("op " + op + " first in the invariant", sealInvariant(op), 2);
         }
         // A condition, what is behind THEN and a part fill the stack each; nothing may be left over for the next one.
-        ProtoCheck x = withInvariant(sumOf(8));
-        rule(x, joined(sumOf(8), row(THEN, var(0), num(1), PLUS, set(0))));
+        ProtoCheck x = withInvariant(joined(sumOfPowers(), row(num(255), EQUAL)));
+        rule(x, joined(sumOfPowers(), row(num(255), EQUAL, THEN, var(0), num(1), PLUS, set(0))));
         explored(sealed(x), 50, 1);
         due("50 states expanded", x.stateCount(), 51);
     }
@@ -296,6 +300,7 @@ public final class TermsSentenceTest extends Fixture {
         due("word 11", sealRule(num(1), num(1), set(0), THEN), 1);
         due("word 12", sealRule(num(1), ALSO, num(1), THEN), 1);
         due("word 12 at the end", sealRule(num(1), ALSO, THEN), 1);
+        due("word 12 behind two values", sealRule(num(1), num(1), ALSO, THEN), 1);
     }
 
     @Sentence(in = "Terms", says = "one THEN;")
@@ -307,6 +312,7 @@ public final class TermsSentenceTest extends Fixture {
         due("a second at the end", sealRule(num(1), THEN, num(2), set(0), THEN), 1);
         due("a second behind a value", sealRule(num(1), THEN, num(2), THEN, num(2), set(0)), 1);
         due("a second behind a value at the end", sealRule(num(1), THEN, num(2), THEN), 1);
+        due("a second behind two values", sealRule(num(1), THEN, num(2), num(3), THEN, set(0)), 1);
     }
 
     @Sentence(in = "Terms", says = "words 0 to 9 and 11 that leave nothing;")
@@ -318,6 +324,7 @@ public final class TermsSentenceTest extends Fixture {
         due("word 9", sealRule(num(1), THEN, num(1), NOT, set(0)), 0);
         due("word 12", sealRule(num(1), THEN, ALSO), 1);
         due("word 12 behind a value", sealRule(num(1), THEN, num(1), ALSO), 1);
+        due("word 12 behind two values", sealRule(num(1), THEN, num(1), num(2), ALSO, set(0)), 1);
     }
 
     @Sentence(in = "Terms", says = "and in each half the stack never has more than 8 values,")
@@ -325,6 +332,9 @@ public final class TermsSentenceTest extends Fixture {
         due("8 in the condition", sealRule(joined(sumOf(8), row(THEN))), 0);
         due("9 in the condition", sealRule(joined(sumOf(9), row(THEN))), 1);
         due("9 in the condition with VAR", sealRule(joined(row(num(1), var(0)), sumOf(7), row(PLUS, PLUS, THEN))), 1);
+        int[] nine = {num(1), num(1), num(1), num(1), num(1), num(1), num(1), num(1), num(1)};
+        due("9 and two more in the condition", sealRule(joined(nine, row(num(1), num(1), THEN))), 1);
+        due("9 and one more in the other half", sealRule(joined(row(num(1), THEN), nine, row(num(1)))), 1);
         due("8 in the other half", sealRule(joined(row(num(1), THEN), sumOf(8), row(set(0)))), 0);
         due("9 in the other half", sealRule(joined(row(num(1), THEN), sumOf(9), row(set(0)))), 1);
         due("8 in each half", sealRule(joined(sumOf(8), row(THEN, num(1), set(5)), sumOf(6), row(set(0)))), 0);
@@ -332,8 +342,7 @@ public final class TermsSentenceTest extends Fixture {
         due("8 twice in one half", sealRule(joined(sumOf(8), sumOf(7), row(PLUS, THEN))), 0);
         due("8 set one by one", sealRule(num(1), THEN, num(1), num(2), num(3), num(4), num(5), num(6), num(7), num(8),
             set(0), set(1), set(2), set(3), set(4), set(5), set(0), set(1)), 0);
-        int[] eight = {num(1), num(2), num(4), num(8), num(16), num(32), num(64), num(128), 2, 2, 2, 2, 2, 2, 2};
-        due("8 values are told apart", value(row(), eight), 255);
+        due("8 values are told apart", value(row(), sumOfPowers()), 255);
     }
 
     @Sentence(in = "Terms", says = "nor one too few for a word.")
@@ -343,17 +352,20 @@ public final class TermsSentenceTest extends Fixture {
             due("op " + op + " with 1", sealRule(num(1), op, THEN), 1);
             due("op " + op + " with 2", sealRule(num(1), num(1), op, THEN), 0);
             due("op " + op + " with 1, then one more", sealRule(num(1), op, num(1), THEN), 1);
+            due("op " + op + " with 0, then two more", sealRule(op, num(1), num(1), THEN), 1);
             due("op " + op + " with 0 behind THEN", sealRule(num(1), THEN, op), 1);
             due("op " + op + " with 1 behind THEN", sealRule(num(1), THEN, num(1), op, set(0)), 1);
             due("op " + op + " with 2 behind THEN", sealRule(num(1), THEN, num(1), num(1), op, set(0)), 0);
         }
         due("op 9 with 0", sealRule(NOT, THEN), 1);
+        due("op 9 with 0, then one more", sealRule(NOT, num(1), THEN), 1);
         due("op 9 with 1", sealRule(num(1), NOT, THEN), 0);
-        due("op 9 with 0 behind THEN", sealRule(num(1), THEN, NOT, set(0)), 1);
+        due("op 9 with 0 behind THEN", sealRule(num(1), THEN, NOT), 1);
         due("SET with 0", sealRule(num(1), THEN, set(0)), 1);
         due("SET with 1", sealRule(num(1), THEN, num(1), set(0)), 0);
         due("SET with 0 after one with 1", sealRule(num(1), THEN, num(1), set(0), set(1)), 1);
-        due("SET with 0, then a value", sealRule(num(1), THEN, set(0), num(1), set(0)), 1);
+        due("SET with 0, then a value", sealRule(num(1), THEN, set(0), num(1)), 1);
+        due("SET with 0, then with 1", sealRule(num(1), THEN, set(0), num(1), set(0)), 1);
     }
 
     @Sentence(in = "Terms", says = "A rule MAY FIRE in a state in which its condition is not 0.")
@@ -444,6 +456,7 @@ public final class TermsSentenceTest extends Fixture {
         due("two values in the last part", sealInvariant(num(1), ALSO, num(1), num(1)), 2);
         due("word 9", sealInvariant(num(0), NOT), 0);
         due("word 10", sealInvariant(num(1), THEN), 2);
+        due("word 10 behind two values", sealInvariant(num(1), num(1), THEN), 2);
         due("word 10 between", sealInvariant(num(1), THEN, num(1)), 2);
         due("word 10 in the last part", sealInvariant(num(1), ALSO, num(1), THEN), 2);
         due("word 11", sealInvariant(num(1), num(1), set(0)), 2);
@@ -461,10 +474,13 @@ public final class TermsSentenceTest extends Fixture {
             due("op " + op + " with 0", sealInvariant(op), 2);
             due("op " + op + " with 1", sealInvariant(num(1), op), 2);
             due("op " + op + " with 2", sealInvariant(num(1), num(1), op), 0);
+            due("op " + op + " with 0, then two more", sealInvariant(op, num(1), num(1)), 2);
             due("op " + op + " with the value of the part before", sealInvariant(num(1), ALSO, num(1), op), 2);
         }
         due("op 9 with 0", sealInvariant(NOT), 2);
+        due("op 9 with 0, then one more", sealInvariant(NOT, num(1)), 2);
         due("op 9 with the value of the part before", sealInvariant(num(1), ALSO, NOT), 2);
+        due("op 9 with the value of the part before, then one more", sealInvariant(num(1), ALSO, NOT, num(1)), 2);
         // 1 - (1 - (1 - ..)) of 8 values is 0.
         int[] eight = sumOf(8);
         for (int i = 8; i < eight.length; i++) {
@@ -495,11 +511,11 @@ public final class TermsSentenceTest extends Fixture {
     @Sentence(in = "Terms", says = "BLOCKS: variables with the same block number 1 .. 3 are interchangeable.")
     static void sameBlockNumberIsInterchangeable() {
         for (int g = 0; g <= 3; g++) {
-            due("both in block " + g, twoSwitches(g, g).stateCount(), g == 0 ? 4 : 3);
+            due("both in block " + g, switchStates(g, g), g == 0 ? 4 : 3);
         }
         int[][] different = {{0, 1}, {1, 0}, {1, 2}, {2, 3}, {3, 1}, {0, 3}};
         for (int[] b : different) {
-            due("blocks " + b[0] + " and " + b[1], twoSwitches(b).stateCount(), 4);
+            due("blocks " + b[0] + " and " + b[1], switchStates(b), 4);
         }
         ProtoCheck x = withBlocks(3, 1, 2, 2, 1, 3);
         invariant(x, num(1));
@@ -543,11 +559,13 @@ public final class TermsSentenceTest extends Fixture {
         due("no two of one block", x.seal(), 0);
     }
 
-    private static int sealPair(int[] one, int[] other) {
+    /** What seal() says of these rules if variables 0 and 1 are a block. */
+    private static int sealPair(int[]... rules) {
         ProtoCheck x = withBlocks(1, 1);
         invariant(x, num(1));
-        rule(x, one);
-        rule(x, other);
+        for (int[] words : rules) {
+            rule(x, words);
+        }
         return x.seal();
     }
 
@@ -561,14 +579,15 @@ public final class TermsSentenceTest extends Fixture {
         due("the first word differs", sealPair(row(num(1), THEN, var(0), set(0)), row(num(2), THEN, var(1), set(1))), 3);
         due("a word more", sealPair(row(var(0), THEN), row(var(1), THEN, num(1), set(2))), 3);
         due("a word less", sealPair(row(var(0), THEN, num(1), set(2)), row(var(1), THEN)), 3);
+        due("one rule only begins as it should", sealPair(row(var(0), THEN), row(var(1), THEN, num(1), set(2)),
+            row(var(0), THEN, num(1), set(2))), 3);
+        due("one rule only ends too soon", sealPair(row(var(0), THEN, num(1), set(2)), row(var(1), THEN), row(var(0), THEN)), 3);
         due("the same in other words", sealPair(row(var(0), num(1), PLUS, THEN), row(num(1), var(1), PLUS, THEN)), 3);
         due("CONST 0 and CONST 1 are not exchanged", sealPair(row(num(0), THEN), row(num(1), THEN)), 0);
         due("neither is named", sealPair(row(var(2), THEN, num(1), set(3)), row(num(1), THEN)), 0);
         due("a rule made of itself", sealPair(row(var(0), var(1), PLUS, THEN), row(var(1), var(0), PLUS, THEN)), 0);
         due("only one way round", sealPair(row(var(0), THEN), row(var(0), THEN)), 3);
-        ProtoCheck x = withBlocks(1, 1);
-        invariant(x, num(1));
-        due("no rules", x.seal(), 0);
+        due("no rules", sealPair(), 0);
     }
 
     private static int sealParts(int... words) {
@@ -586,24 +605,33 @@ public final class TermsSentenceTest extends Fixture {
         due("only the last part", sealParts(num(1), ALSO, var(5)), 3);
         due("a word more", sealParts(var(4), ALSO, var(5), NOT), 3);
         due("a word less", sealParts(var(4), NOT, ALSO, var(5)), 3);
+        due("one part only begins as it should", sealParts(var(4), ALSO, var(5), NOT, ALSO, var(4), NOT), 3);
+        due("one part only ends too soon", sealParts(var(4), NOT, ALSO, var(5), ALSO, var(4)), 3);
         due("the same in other words", sealParts(var(4), var(5), PLUS), 3);
         due("a part made of itself", sealParts(var(4), var(4), EQUAL, ALSO, var(5), var(5), EQUAL), 0);
         due("both orders", sealParts(var(4), var(5), PLUS, ALSO, var(5), var(4), PLUS), 0);
         due("CONST 4 and CONST 5 are not exchanged", sealParts(num(4), ALSO, num(6)), 0);
     }
 
+    /** What the lower variable has in the standard form: rule 0, which breaks the invariant, copies it into variable 3. */
+    private static int lowestVariable(int x0, int x1) {
+        ProtoCheck x = withBlocks(1, 1);
+        setInit(x, x0, x1);
+        rule(x, num(1), THEN, var(0), set(3), num(1), set(4));
+        rule(x, num(1), THEN, var(1), set(3), num(1), set(4));
+        invariant(x, var(4), NOT);
+        return explored(sealed(x), 1, 0).traceVar(1, 3);
+    }
+
     @Sentence(in = "Terms", says = "The STANDARD FORM of a state has, within each block, the same values in ascending "
         + "order from the lowest variable on;")
     static void standardFormAscends() {
-        // Rule 0 fires first, on the lowest variable: it breaks only if that one has the lowest value.
-        ProtoCheck x = withBlocks(1, 1);
-        setInit(x, 5, 0);
-        grow(x, 0);
-        grow(x, 1);
-        invariant(x, joined(never(0, 1), row(ALSO), never(1, 1), row(ALSO), never(0, 6), row(ALSO), never(1, 6)));
-        explored(sealed(x), 1, 0);
-        dueState("the lowest value grew", x, 1, 5, 1);
-        x = withBlocks(1, 1, 1, 1, 1, 1);
+        int[][] pairs = {{0, 5}, {-1, 0}, {MIN, 3}, {MIN, MAX}, {-3, -2}, {MAX - 1, MAX}};
+        for (int[] pair : pairs) {
+            due("lower one of " + pair[0] + " and " + pair[1], lowestVariable(pair[0], pair[1]), pair[0]);
+            due("lower one of " + pair[1] + " and " + pair[0], lowestVariable(pair[1], pair[0]), pair[0]);
+        }
+        ProtoCheck x = withBlocks(1, 1, 1, 1, 1, 1);
         setInit(x, MAX, 0, MIN, -1, 0, 1);
         invariant(x, num(1));
         explored(sealed(x), 1, 0);
@@ -635,7 +663,7 @@ public final class TermsSentenceTest extends Fixture {
             explored(sealed(x), 9, 0);
             due("block of variable " + v, x.stateCount(), 4);
         }
-        due("three blocks of one", twoSwitches(1, 3, 2).stateCount(), 4);
+        due("three blocks of one", switchStates(1, 3, 2), 4);
     }
 
     // Storing and expanding
@@ -733,7 +761,7 @@ public final class TermsSentenceTest extends Fixture {
         x = withInvariant(never(0, 4));
         rule(x, var(0), NOT, THEN, num(1), set(0));
         rule(x, var(0), NOT, THEN, num(2), set(0));
-        rule(x, var(0), var(0), num(3), LESS, AND, THEN, num(3), set(0));
+        rule(x, num(0), var(0), LESS, var(0), num(3), LESS, AND, THEN, num(3), set(0));
         rule(x, var(0), num(3), EQUAL, THEN, num(4), set(0));
         explored(sealed(x), 9, 0);
         due("three steps", x.traceLen(), 3);
@@ -828,12 +856,12 @@ public final class TermsSentenceTest extends Fixture {
         // Expanding (0, 5) rule 0 fires; from (5, 0), as it was set, only rule 1 leads to the same standard form.
         ProtoCheck x = withBlocks(1, 1);
         setInit(x, 5, 0);
-        rule(x, var(0), NOT, THEN, num(7), set(0));
-        rule(x, var(1), NOT, THEN, num(7), set(1));
-        invariant(x, joined(never(0, 7), row(ALSO), never(1, 7)));
+        rule(x, var(0), NOT, THEN, num(3), set(0));
+        rule(x, var(1), NOT, THEN, num(3), set(1));
+        invariant(x, joined(never(0, 3), row(ALSO), never(1, 3)));
         explored(sealed(x), 9, 0);
         due("the other rule", x.traceRule(0), 1);
-        dueState("not the standard form", x, 1, 5, 7);
+        dueState("not the standard form", x, 1, 5, 3);
         x = withInvariant(never(0, 4));
         rule(x, num(0), THEN, num(4), set(0));
         rule(x, num(1), THEN);
@@ -857,7 +885,7 @@ public final class TermsSentenceTest extends Fixture {
             out.put("probeVar(" + v + ", 2)", x -> x.probeVar(v, 2));
             out.put("traceRule(" + v + ")", x -> x.traceRule(v));
         }
-        for (int w : row(13, var(6), num(0), THEN)) {
+        for (int w : row(13, var(6), num(0), NOT, THEN, set(0))) {
             out.put("feedRule(" + w + ")", x -> x.feedRule(w));
             out.put("feedInvariant(" + w + ")", x -> x.feedInvariant(w));
         }
@@ -868,15 +896,24 @@ public final class TermsSentenceTest extends Fixture {
         return out;
     }
 
-    /** What the object answers from there on, when it is brought to an end. */
+    /** What the object answers from there on: brought to an end as it is, and then after it has been described further. */
     private static List<Integer> goOn(ProtoCheck x) {
         List<Integer> out = new ArrayList<>();
-        int[] ask = {x.stateCount(), x.verdict(), x.isReachable(), x.seal(), x.stateCount(), x.feedRule(num(1)), x.feedRule(THEN),
-            x.feedInvariant(var(0)), x.feedInvariant(num(2)), x.feedInvariant(LESS), x.seal(), x.beginRule(), x.feedRule(num(1)),
-            x.feedRule(THEN), x.feedRule(num(2)), x.feedRule(set(0)), x.setSymGroup(0, 0), x.seal(), x.explore(1),
-            x.stateCount(), x.verdict(), x.isReachable(), x.explore(400), x.stateCount(), x.verdict(), x.isReachable(),
-            x.traceLen(), x.replay()};
-        for (int answer : ask) {
+        bringToAnEnd(x, out);
+        int[] more = {x.feedRule(num(1)), x.feedRule(THEN), x.feedInvariant(var(0)), x.feedInvariant(num(2)), x.feedInvariant(LESS),
+            x.seal(), x.beginRule(), x.feedRule(num(1)), x.feedRule(THEN), x.feedRule(num(2)), x.feedRule(set(0)),
+            x.setSymGroup(0, 0)};
+        for (int answer : more) {
+            out.add(answer);
+        }
+        bringToAnEnd(x, out);
+        return out;
+    }
+
+    private static void bringToAnEnd(ProtoCheck x, List<Integer> out) {
+        int[] end = {x.stateCount(), x.verdict(), x.isReachable(), x.seal(), x.stateCount(), x.explore(1), x.stateCount(),
+            x.verdict(), x.isReachable(), x.explore(400), x.stateCount(), x.verdict(), x.isReachable(), x.traceLen(), x.replay()};
+        for (int answer : end) {
             out.add(answer);
         }
         for (int i = -1; i < 4; i++) {
@@ -885,13 +922,13 @@ public final class TermsSentenceTest extends Fixture {
                 out.add(x.traceVar(i, v));
             }
         }
-        return out;
     }
 
     @Sentence(in = "Terms", says = "A call that answers -1, -2, -3 or -4 changes nothing.")
     static void refusedCallChangesNothing() {
         Map<String, Supplier<ProtoCheck>> stages = unsealedStages();
         stages.putAll(sealedStages());
+        stages.put("sealed with a block", () -> sealed(switches(2, 2)));
         TreeSet<Integer> refusals = new TreeSet<>();
         for (Map.Entry<String, Supplier<ProtoCheck>> stage : stages.entrySet()) {
             List<Integer> untouched = goOn(stage.getValue().get());
