@@ -3,8 +3,12 @@ import java.nio.file.Files;
 import java.nio.file.Path;
 import java.util.ArrayList;
 import java.util.LinkedHashMap;
+import java.util.LinkedHashSet;
 import java.util.List;
 import java.util.Map;
+import java.util.Set;
+import java.util.regex.Matcher;
+import java.util.regex.Pattern;
 
 /** The text of ../shared/DOC.md by sections, and how much of it has been quoted. */
 final class DocText {
@@ -25,6 +29,25 @@ final class DocText {
 
     private static String oneLine(String text) {
         return text.replaceAll("\\s+", " ").trim();
+    }
+
+    /** The methods of the public face, each as reflection tells it, but for the class's name. */
+    Set<String> face() {
+        Set<String> out = new LinkedHashSet<>();
+        Matcher m = Pattern.compile("(public \\w+ \\w+\\()([^)]*)\\);").matcher(texts.get("The public face"));
+        while (m.find()) {
+            String types = m.group(2).replaceAll(" \\w+(, |$)", ",").replaceFirst(",$", "");
+            out.add(m.group(1) + types + ")");
+        }
+        return out;
+    }
+
+    List<String> callNames() {
+        List<String> out = new ArrayList<>();
+        for (String call : face()) {
+            out.add(call.replaceAll("^public \\w+ |\\(.*$", ""));
+        }
+        return out;
     }
 
     /** Where the piece stands, counted through the whole document; -1 if the section does not say so. */

@@ -12,14 +12,12 @@ import java.util.regex.Pattern;
 
 /** The public face, and the rules of the language that can be looked for in the class and in its text. */
 public final class FaceTest {
-    private static final Set<String> FACE = Set.of(
-        "public void init()", "public int setInit(int,int)", "public int setSymGroup(int,int)", "public int beginRule()",
-        "public int feedRule(int)", "public int feedInvariant(int)", "public int seal()", "public int explore(int)",
-        "public int verdict()", "public int stateCount()", "public int traceLen()", "public int traceRule(int)",
-        "public int traceVar(int,int)", "public int replay()", "public int probeVar(int,int)", "public int isReachable()");
     private static final Set<String> IMPORTS = Set.of("java.util.Arrays", "java.util.ArrayList", "java.util.List");
 
-    private FaceTest() {
+    private final DocText doc;
+
+    private FaceTest(DocText doc) {
+        this.doc = doc;
     }
 
     private static void dueTrue(String what, boolean holds) {
@@ -30,7 +28,7 @@ public final class FaceTest {
         return Modifier.isPrivate(m.getModifiers()) || m.isSynthetic();
     }
 
-    private static void face() {
+    private void face() {
         Class<ProtoCheck> c = ProtoCheck.class;
         dueTrue("public final class", c.getModifiers() == (Modifier.PUBLIC | Modifier.FINAL));
         dueTrue("one public constructor", c.getDeclaredConstructors().length == 1
@@ -39,20 +37,21 @@ public final class FaceTest {
         for (Method m : c.getDeclaredMethods()) {
             if (!isPrivate(m)) found.add(m.toString().replace("ProtoCheck.", ""));
         }
-        dueTrue("the document's methods and no others: " + found, found.equals(FACE));
+        dueTrue("the document's methods and no others: " + found, found.equals(doc.face()));
+        dueTrue("the document's face has sixteen methods", doc.face().size() == 16);
         for (Field f : c.getDeclaredFields()) {
             dueTrue("field " + f.getName() + " is private", isPrivate(f));
         }
     }
 
-    private static void inside(Class<?> c) {
+    private void inside(Class<?> c) {
         for (Field f : c.getDeclaredFields()) {
             int m = f.getModifiers();
             dueTrue("static field " + f.getName() + " is final", !Modifier.isStatic(m) || Modifier.isFinal(m));
         }
         for (Method m : c.getDeclaredMethods()) {
             dueTrue(m.getName() + " has at most seven parameters", m.getParameterCount() <= 7);
-            boolean bearsPublicName = isPrivate(m) && FACE.stream().anyMatch(s -> s.contains(" " + m.getName() + "("));
+            boolean bearsPublicName = isPrivate(m) && doc.callNames().contains(m.getName());
             dueTrue("private " + m.getName() + " bears no public name", !bearsPublicName);
         }
         for (Class<?> inner : c.getDeclaredClasses()) {
@@ -78,8 +77,9 @@ public final class FaceTest {
     }
 
     public static void main(String[] args) throws IOException {
-        face();
-        inside(ProtoCheck.class);
+        FaceTest test = new FaceTest(new DocText());
+        test.face();
+        test.inside(ProtoCheck.class);
         text();
         Check.end("FaceTest");
     }
